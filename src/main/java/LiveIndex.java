@@ -1237,7 +1237,7 @@ public final class LiveIndex {
         private int token;
         private int place;
         private int end;
-        /** The token's word, if it is one. */
+        /** The token's letters, if it has some. */
         private int word;
         /** How many ( and not are open. */
         private int opened;
@@ -1278,7 +1278,8 @@ public final class LiveIndex {
             }
             end = tape.wordEnd(place);
             if (end > place) {
-                token = wordToken();
+                word = tape.wordBetween(place, end);
+                token = end - place > WORD_LETTERS ? WRONG : wordToken(word);
                 return;
             }
             end = place + 1;
@@ -1295,11 +1296,7 @@ public final class LiveIndex {
             }
         }
 
-        private int wordToken() {
-            if (end - place > WORD_LETTERS) {
-                return WRONG;
-            }
-            word = tape.wordBetween(place, end);
+        private static int wordToken(int word) {
             switch (word) {
                 case OR_LETTERS:
                     return KEY_OR;
@@ -1385,14 +1382,12 @@ public final class LiveIndex {
             if (token == '*') {
                 query.put(Query.RANGE, first, first + SPANS[letters]);
                 next();
-            } else if (token == '~') {
-                readNear(first);
-            } else {
-                query.put(Query.RANGE, first, first + 1);
+                return;
             }
-        }
-
-        private void readNear(int first) {
+            if (token != '~') {
+                query.put(Query.RANGE, first, first + 1);
+                return;
+            }
             next();
             if (token != WORD) {
                 refuse();

@@ -175,6 +175,9 @@ public final class DocumentsTest {
         T.due("5 the buffer isn't asked", x.where(20), 1000);
         T.due("5 once", x.dropBy(0), 0);
         T.due("5 a view stays as it was", x.found(0, 0, 0), 3);
+        Due.ask(x, "b");
+        T.due("5 another query", x.dropBy(1), 1);
+        T.all("5 who was dropped stays dropped", 1, x.doc(0, 0, 1), x.doc(0, 1, 1), x.doc(0, 2, 1), x.doc(1, 1, 1));
     }
 
     private static void flush() {
@@ -195,6 +198,11 @@ public final class DocumentsTest {
         x.crash();
         Due.add(x, 8, "c");
         T.due("6 names go on behind a crash", x.flush(), 3);
+        x.drop(8);
+        x.crash();
+        Due.add(x, 8, "c");
+        x.flush();
+        T.due("6 none is dropped in a new one", x.doc(0, 0, 1), 0);
     }
 
     private static void flushFull() {

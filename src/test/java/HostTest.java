@@ -43,6 +43,9 @@ public final class HostTest {
         T.due("31 filled", x.tells(0, 0, 0, 0), Due.NONE);
         x.sheet(0, 0, 4);
         T.due("31 all 0 again", x.tells(0, 0, 0, 0), 1);
+        x.cell(0, 0, 9);
+        x.sheet(0, 0, 4);
+        T.due("31 the first, too", x.tells(0, 0, 0, 0), 1);
         x.sheet(0, 0, 0);
         T.due("31 a row of none", x.tells(0, 0, 0, 0), 0);
     }

@@ -47,8 +47,11 @@ public final class ModelTest {
     }
 
     private void go() throws Exception {
-        int mood = random.nextInt(4);
-        for (int i = 0; i < 512 && !failed && calls.size() < 512; i++) {
+        int mood = random.nextInt(6);
+        // an object is used for 512 calls; some runs go far beyond, since no call may ever throw
+        int length = random.nextInt(50) == 0 ? 3000 : 512;
+        if (mood >= 4) manyDocuments(mood == 5);
+        for (int i = 0; i < length && !failed && calls.size() < length; i++) {
             if (mood == 3 && random.nextInt(3) == 0) {
                 anyCall();
             } else {
@@ -139,6 +142,34 @@ public final class ModelTest {
         return whats[random.nextInt(whats.length)];
     }
 
+    /** Up to 64 documents in segments, so that the rest of the run meets full rows. */
+    private void manyDocuments(boolean merged) throws Exception {
+        call("set", 0, random.nextInt(3));
+        for (int key = 0; key < 68; key++) {
+            feedText(WORDS[random.nextInt(WORDS.length)] + " " + WORDS[random.nextInt(3)]);
+            call("add", (key * 37) % 100);
+            if (key % 4 == 3) call("flush");
+            if (key % 12 == 11 && random.nextInt(9) > 0) {
+                call("begin");
+                if (merged) call("drop", random.nextInt(100));
+                call("finish");
+            }
+        }
+    }
+
+    /** A view is opened, filmed and told from, once what was filmed may have changed. */
+    private void readBack() throws Exception {
+        int sheet = random.nextInt(4);
+        int view = random.nextInt(4);
+        call("open", view);
+        call("film", sheet, view, query());
+        if (random.nextInt(3) == 0) call("drop", random.nextInt(100));
+        if (random.nextInt(3) == 0) call("cell", sheet, random.nextInt(3), random.nextInt(100));
+        if (random.nextInt(3) == 0) call("open", random.nextInt(4));
+        for (int what = 0; what < 3; what++) call("tells", sheet, random.nextInt(4), query(), what);
+        call("tells", sheet, view, query(), random.nextInt(3));
+    }
+
     private void likelyCall(int mood) throws Exception {
         int dice = random.nextInt(100);
         if (dice < 22) {
@@ -153,6 +184,8 @@ public final class ModelTest {
             segmentCall(mood);
         } else if (dice < 68) {
             commitCall();
+        } else if (dice < 70) {
+            readBack();
         } else if (dice < 94) {
             queryCall();
         } else {

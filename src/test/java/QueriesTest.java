@@ -14,6 +14,7 @@ public final class QueriesTest {
         foundMany();
         worths();
         costs();
+        costsOfNeighbours();
         look();
         both();
         silence();
@@ -58,7 +59,10 @@ public final class QueriesTest {
             T.all("21 a fault empties the tape and makes no query", 0, x.count(7), x.count(6));
         }
         T.due("21 a fault at the end of a full tape", Due.ask(x, "a".repeat(6) + " ".repeat(56) + "or"), -164);
+        T.due("21 half a query", Due.ask(x, "z or z or"), -109);
         T.due("21 the first query all the same", Due.ask(x, "a"), 0);
+        Due.segment(x, 0, "z", "a");
+        T.row("21 nothing of the half one is in it", Due.rowOf(x, 0), 1);
     }
 
     private static void queryOpenParts() {
@@ -203,7 +207,9 @@ public final class QueriesTest {
             {"a c", "a or b and c", "1"}, {"a c", "(a or b)and c", "2"}, {"a b c", "a and b or c", "3"},
             {"c", "a and b or c", "1"}, {"a b c", "a and b and c", "3"}, {"a b", "a and b and c", "0"},
             {"a b", "not a or b", "1"}, {"c", "not a and not b", "2"}, {"b", "not(a and b)", "1"},
-            {"a a", "a or a or a", "6"}, {"or and not", "\"or\"", "-2"}, {"a b", "a* and not(b~a)", "0"},
+            {"abcdeg", "abcdef", "0"}, {"abcdeg", "abcdef*", "0"}, {"abcdeg abcdee", "abcdef~abcdee", "0"},
+            {"a b c", "\"a b\" or c", "3"}, {"a b c", "\"a b c\" and c and \"c\"", "5"}, {"a b c", "\"a\" and not \"b\"", "0"},
+            {"a b c", "a~b or \"b c\"", "3"}, {"a a", "a or a or a", "6"}, {"or and not", "\"or\"", "-2"}, {"a b", "a* and not(b~a)", "0"},
             {twelve, "a~a or a~a or a~a or a~a or a~a or a~a or a~a or a~a or a~a", "540"}};
         for (String[] c : cases) {
             T.due("24 worth of " + c[1] + " in " + c[0], worth(c[0], c[1]), Integer.parseInt(c[2]));
@@ -224,8 +230,19 @@ public final class QueriesTest {
         x = new LiveIndex();
         Due.segment(x, 0, "a b a", "ab abc", "a ab", "b");
         Due.segment(x, 10, "a", "abc c");
-        texts = new String[] {"a~b", "a~a", "\"a b a\"", "\"abc\"", "(a)or(abc*)"};
-        due = new int[] {5, 6, 8, 2, 5};
+        texts = new String[] {"a~b", "a~a or b~c and ab", "\"a b a\"", "\"abc\" or c", "(a)or(abc*)", "\"a b\" and \"c\" or a*"};
+        due = new int[] {5, 11, 8, 3, 5, 13};
+        for (int i = 0; i < texts.length; i++) {
+            Due.ask(x, texts[i]);
+            T.due("24 cost of " + texts[i], x.look(i, 1), due[i]);
+        }
+    }
+
+    private static void costsOfNeighbours() {
+        LiveIndex x = new LiveIndex();
+        Due.segment(x, 0, "abcdef", "abcdeg abcdee", "a abcdeh");
+        String[] texts = {"abcdef", "abcdef*", "\"abcdef\"", "abcdef~abcdef", "abcde*"};
+        int[] due = {1, 1, 1, 2, 4};
         for (int i = 0; i < texts.length; i++) {
             Due.ask(x, texts[i]);
             T.due("24 cost of " + texts[i], x.look(i, 1), due[i]);
@@ -288,6 +305,8 @@ public final class QueriesTest {
         T.all("26 one was opened", 16, x.count(9), x.count(10));
         x.set(2, 8);
         T.due("26 just not DEAR", x.both(1, 0, 0), 2);
+        x.crash();
+        T.all("26 nothing behind a crash", 0, x.both(0, 1, 0), x.both(0, 1, 1));
     }
 
     private static void silence() {

@@ -209,6 +209,9 @@ public final class SegmentsTest {
         dueChoice("never, with eight", x, Due.NONE, 0, 0);
         x.set(0, DENSE);
         dueChoice("dense", x, 3, 3, 4);
+        x = ofSizes(1, 1, 1, 1, 1, 1, 1, 1);
+        x.set(0, NEVER);
+        dueChoice("never, with eight alike", x, Due.NONE, 0, 0);
         x = merged(4, 3, 4, 4);
         pairOfTopTier(x);
     }
