@@ -724,16 +724,17 @@ public final class LiveIndex {
         int readDocument() {
             wordCount = 0;
             int at = behindBlanks(0);
-            while (at < size) {
+            while (at < size && wordCount < DOC_WORDS) {
                 int end = wordEnd(at);
-                if (end == at || end - at > WORD_LETTERS || wordCount >= DOC_WORDS) {
+                if (end == at || end - at > WORD_LETTERS) {
                     return at;
                 }
                 words[wordCount] = wordBetween(at, end);
                 wordCount++;
                 at = behindBlanks(end);
             }
-            return wordCount == 0 ? size : NONE;
+            // what is left behind the last word that fits can't stand there
+            return wordCount == 0 || at < size ? at : NONE;
         }
 
         int[] wordsRead() {
@@ -1114,8 +1115,7 @@ public final class LiveIndex {
 
         int worthIn(int[] words) {
             int top = -1;
-            int at = 0;
-            while (at < size) {
+            for (int at = 0; at < size; at += length(at)) {
                 int step = steps[at];
                 if (step <= PHRASE && top + 1 < pending.length) {
                     top++;
@@ -1127,7 +1127,6 @@ public final class LiveIndex {
                     boolean counts = step == OR || (pending[top] != 0 && pending[top + 1] != 0);
                     pending[top] = counts ? pending[top] + pending[top + 1] : 0;
                 }
-                at += length(at);
             }
             return top < 0 ? 0 : Math.min(pending[0], MOST_WORTH);
         }
@@ -1311,7 +1310,7 @@ public final class LiveIndex {
 
         private void readEither() {
             readBoth();
-            while (fault == NONE && token == KEY_OR) {
+            for (int i = 0; i < TAPE_BYTES && fault == NONE && token == KEY_OR; i++) {
                 next();
                 readBoth();
                 query.put(Query.OR);
@@ -1320,7 +1319,7 @@ public final class LiveIndex {
 
         private void readBoth() {
             readOne();
-            while (fault == NONE && token == KEY_AND) {
+            for (int i = 0; i < TAPE_BYTES && fault == NONE && token == KEY_AND; i++) {
                 next();
                 readOne();
                 query.put(Query.AND);
