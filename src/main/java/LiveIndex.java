@@ -865,6 +865,10 @@ public final class LiveIndex {
             }
             return sum;
         }
+
+        int postingsOf(int word) {
+            return postingsBetween(word, word + 1);
+        }
     }
 
     /** Segments in order and who of them is dropped: as it is now, or as it was for a view, a write, a commit. */
@@ -1088,34 +1092,52 @@ public final class LiveIndex {
 
     /**
      * A query as a row of steps, each part behind the parts that it is made of, so that its worth is
-     * reckoned without recursion: RANGE low high (words from low on, below high: one word, or all that
-     * begin so), NEAR a b, PHRASE n and n words, NOT, AND, OR.
+     * reckoned without recursion. A step may have two numbers: RANGE from and below (the words from the
+     * one on that are below the other: one word, or all that begin so), NEAR its words, PHRASE the place
+     * of its first word in the row of phrase words and how many it has; NOT, AND, OR have none.
      */
     private static final class Query {
         static final int RANGE = 0, NEAR = 1, PHRASE = 2, NOT = 3, AND = 4, OR = 5;
 
-        /** Far more than the parts that 64 bytes can name need: a word, the shortest, takes 3 numbers and its or 1. */
-        final int[] steps = new int[2 * TAPE_BYTES];
-        int size;
+        /** A step takes a byte of the tape at least, and so does a phrase's word. */
+        private final int[] steps = new int[TAPE_BYTES];
+        private final int[] ones = new int[TAPE_BYTES];
+        private final int[] others = new int[TAPE_BYTES];
+        private int size;
+        private final int[] phraseWords = new int[TAPE_BYTES];
+        private int phraseSize;
         /** Five levels of ( with a left side of or and of and each, and one more. */
         private final int[] pending = new int[16];
 
-        void put(int step) {
-            if (size < steps.length) {
+        void clear() {
+            size = 0;
+            phraseSize = 0;
+        }
+
+        void put(int step, int one, int other) {
+            if (size < TAPE_BYTES) {
                 steps[size] = step;
+                ones[size] = one;
+                others[size] = other;
                 size++;
             }
         }
 
-        void put(int step, int low, int high) {
-            put(step);
-            put(low);
-            put(high);
+        void putPhraseWord(int word) {
+            if (phraseSize < TAPE_BYTES) {
+                phraseWords[phraseSize] = word;
+                phraseSize++;
+            }
+        }
+
+        /** The last n phrase words are a phrase. */
+        void putPhrase(int n) {
+            put(PHRASE, phraseSize - n, n);
         }
 
         int worthIn(int[] words) {
             int top = -1;
-            for (int at = 0; at < size; at += length(at)) {
+            for (int at = 0; at < size; at++) {
                 int step = steps[at];
                 if (step <= PHRASE && top + 1 < pending.length) {
                     top++;
@@ -1134,53 +1156,41 @@ public final class LiveIndex {
         int costIn(Stand stand) {
             int sum = 0;
             for (int s = 0; s < stand.size; s++) {
-                for (int at = 0; at < size; at += length(at)) {
+                for (int at = 0; at < size; at++) {
                     sum += leafCost(stand.segments[s], at);
                 }
             }
             return sum;
         }
 
-        private int length(int at) {
-            switch (steps[at]) {
-                case RANGE:
-                case NEAR:
-                    return 3;
-                case PHRASE:
-                    return 2 + steps[at + 1];
-                default:
-                    return 1;
-            }
-        }
-
         private int leafWorth(int[] words, int at) {
             switch (steps[at]) {
                 case RANGE:
-                    return placesBetween(words, steps[at + 1], steps[at + 2]);
+                    return placesBetween(words, ones[at], others[at]);
                 case NEAR:
-                    return nearTwos(words, steps[at + 1], steps[at + 2]);
+                    return nearTwos(words, ones[at], others[at]);
                 default:
-                    return steps[at + 1] * phrasesIn(words, at + 2, steps[at + 1]);
+                    return others[at] * phrasesIn(words, ones[at], others[at]);
             }
         }
 
         private int leafCost(Segment segment, int at) {
             switch (steps[at]) {
                 case RANGE:
-                    return segment.postingsBetween(steps[at + 1], steps[at + 2]);
+                    return segment.postingsBetween(ones[at], others[at]);
                 case NEAR:
-                    return wordCosts(segment, at + 1, 2);
+                    return segment.postingsOf(ones[at]) + segment.postingsOf(others[at]);
                 case PHRASE:
-                    return wordCosts(segment, at + 2, steps[at + 1]);
+                    return phraseCost(segment, ones[at], others[at]);
                 default:
                     return 0;
             }
         }
 
-        private int wordCosts(Segment segment, int from, int n) {
+        private int phraseCost(Segment segment, int from, int n) {
             int sum = 0;
             for (int i = from; i < from + n; i++) {
-                sum += segment.postingsBetween(steps[i], steps[i] + 1);
+                sum += segment.postingsOf(phraseWords[i]);
             }
             return sum;
         }
@@ -1212,7 +1222,7 @@ public final class LiveIndex {
             int sum = 0;
             for (int i = 0; i + n <= words.length; i++) {
                 int same = 0;
-                while (same < n && words[i + same] == steps[from + same]) {
+                while (same < n && words[i + same] == phraseWords[from + same]) {
                     same++;
                 }
                 if (same == n) {
@@ -1249,7 +1259,7 @@ public final class LiveIndex {
         /** The place of the fault, or NONE. */
         int read(Query target) {
             query = target;
-            query.size = 0;
+            query.clear();
             opened = 0;
             fault = NONE;
             end = 0;
@@ -1313,7 +1323,7 @@ public final class LiveIndex {
             for (int i = 0; i < TAPE_BYTES && fault == NONE && token == KEY_OR; i++) {
                 next();
                 readBoth();
-                query.put(Query.OR);
+                query.put(Query.OR, 0, 0);
             }
         }
 
@@ -1322,7 +1332,7 @@ public final class LiveIndex {
             for (int i = 0; i < TAPE_BYTES && fault == NONE && token == KEY_AND; i++) {
                 next();
                 readOne();
-                query.put(Query.AND);
+                query.put(Query.AND, 0, 0);
             }
         }
 
@@ -1354,7 +1364,7 @@ public final class LiveIndex {
             next();
             readOne();
             opened--;
-            query.put(Query.NOT);
+            query.put(Query.NOT, 0, 0);
         }
 
         private void readBrackets() {
@@ -1397,13 +1407,10 @@ public final class LiveIndex {
         }
 
         private void readPhrase() {
-            int head = query.size;
-            query.put(Query.PHRASE);
-            query.put(0);
             int words = 0;
             next();
             while (words < PHRASE_WORDS && token == WORD) {
-                query.put(word);
+                query.putPhraseWord(word);
                 words++;
                 next();
             }
@@ -1411,7 +1418,7 @@ public final class LiveIndex {
                 refuse();
                 return;
             }
-            query.steps[head + 1] = words;
+            query.putPhrase(words);
             next();
         }
     }
