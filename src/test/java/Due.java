@@ -7,16 +7,32 @@ final class Due {
     private final String name;
     private int asked = 0;
     private int wrong = 0;
+    private String sentence = "";
+    private int askedBefore = 0;
 
     Due(String name) {
         this.name = name;
+    }
+
+    /** The next answers are due by these words of the document: each sentence has answers of its own. */
+    void sentence(String words) {
+        endSentence();
+        sentence = words + " | ";
+    }
+
+    private void endSentence() {
+        if (!sentence.isEmpty() && asked == askedBefore) {
+            wrong++;
+            System.out.println(name + ": nothing was asked for " + sentence);
+        }
+        askedBefore = asked;
     }
 
     void due(String call, int got, int want) {
         asked++;
         if (got != want) {
             wrong++;
-            System.out.println(name + ": " + call + " answered " + got + ", due is " + want);
+            System.out.println(name + ": " + sentence + call + " answered " + got + ", due is " + want);
         }
     }
 
@@ -31,6 +47,7 @@ final class Due {
     }
 
     void end() {
+        endSentence();
         System.out.println(name + ": " + asked + " answers, " + wrong + " wrong");
         if (wrong != 0) System.exit(1);
     }
