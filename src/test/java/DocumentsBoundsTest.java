@@ -12,6 +12,7 @@ public final class DocumentsBoundsTest {
 
     public static void main(String[] args) {
         newObject();
+        lastCall();
         feedBad();
         feedFull();
         feedOrder();
@@ -43,6 +44,15 @@ public final class DocumentsBoundsTest {
         Due.ask(x, "a*or a*or a*or a*or a*or a*or a*or a*or a*or a*or a*or a*or a*");
         for (int key = 0; key < 8; key++) Due.segment(x, key, "aa ab ac ad ae af ag ah ai aj ak al");
         T.row("a dear question isn't DEAR", new int[] {x.look(0, 1), x.look(0, 0)}, 8 * 12 * 13, 8);
+    }
+
+    private static void lastCall() {
+        T.sentence("An object is used for at most 512 calls after it has been made");
+        LiveIndex x = new LiveIndex();
+        Due.segment(x, 0, 1);
+        Due.ask(x, "a");
+        for (int calls = 5; calls < 511; calls++) x.look(0, 0);
+        T.row("the 512th", new int[] {x.count(10)}, 506);
     }
 
     private static void feedBad() {
@@ -209,6 +219,10 @@ public final class DocumentsBoundsTest {
         Due.segment(y, 60, 4);
         Due.ask(y, "a");
         T.row("64", new int[] {y.dropBy(0), y.count(0), y.dropBy(0)}, 64, 0, 0);
+        LiveIndex eight = new LiveIndex();
+        EIGHT.tell(eight);
+        Due.ask(eight, "a");
+        T.row("of eight segments", new int[] {eight.dropBy(0), eight.count(0), eight.told(7, 1)}, 8, 0, 0);
         Twins.refused(T, "who finds none drops none", Twins.then(Twins.RICH, z -> z.dropBy(0)), z -> z.dropBy(0), 0);
     }
 
@@ -230,6 +244,11 @@ public final class DocumentsBoundsTest {
             T.due("its name", Due.segment(x, 0, n), 2);
             T.row("all of it", new int[] {x.count(1), x.count(2), x.told(1, 0), x.told(1, 1), x.doc(1, n - 1, 0)},
                 0, 2, n, n, n - 1);
+            for (int key = 0; key < n; key++) x.drop(key);
+            x.crash();
+            Due.segment(x, 50, 1);
+            Due.segment(x, 0, n);
+            T.row("none is dropped in it", new int[] {x.told(1, 1), x.doc(1, 0, 1), x.doc(1, n - 1, 1)}, n, 0, 0);
         }
     }
 

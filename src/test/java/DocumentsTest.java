@@ -29,6 +29,7 @@ public final class DocumentsTest {
         T.all("1 sheets are missing", Due.NOTHING, x.cell(0, 0, 0), x.cell(1, 0, 0), x.cell(2, 0, 0), x.cell(3, 0, 0));
         T.all("1 nothing begun, written, buffered", Due.STATE, x.finish(), x.leave(), x.commit(), x.flush());
         T.due("1 crash", x.crash(), 0);
+        x = new LiveIndex();
         Due.fill(x, 64, "a a a a a a a a a a a a");
         Due.ask(x, "a*or a*or a*or a*or a*or a*or a*or a*or a*or a*or a*or a*or a*");
         T.due("1 the dearest query of all isn't DEAR", x.look(0, 0), 64);

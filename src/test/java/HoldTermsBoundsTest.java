@@ -128,6 +128,18 @@ public final class HoldTermsBoundsTest {
         x.finish();
         T.row("the last three", names(x), 1, 2, 3, 4, 5, 9);
         T.row("of these", keys(x, 5), 20, 24, 28);
+        x = ofSizes(1, 1, 1, 2, 3, 4);
+        for (int key : new int[] {0, 12, 17, 18, 20, 23}) x.drop(key);
+        x.begin();
+        x.finish();
+        T.row("none is dropped in it", dropped(x, 0), 0, 0);
+        T.row("those behind stay as they were", dropped(x, 1), 1, 0);
+        T.row("those behind stay as they were", dropped(x, 2), 0, 1, 1);
+        T.row("those behind stay as they were", dropped(x, 3), 1, 0, 0, 1);
+        Due.segment(x, 50, 4);
+        Due.segment(x, 60, 4);
+        T.row("none is dropped in a new one", dropped(x, 4), 0, 0, 0, 0);
+        T.row("none is dropped in a new one", dropped(x, 5), 0, 0, 0, 0);
     }
 
     private static void mergeMeanwhile() {
@@ -183,35 +195,37 @@ public final class HoldTermsBoundsTest {
         return row;
     }
 
+    private static final Twins.Call[] COMES = {y -> y.drop(10), y -> y.dropBy(0), y -> Due.segment(y, 50, 2),
+        y -> y.begin(), y -> y.drop(51), y -> y.finish(), y -> y.write(), y -> y.commit(), y -> y.open(2), y -> y.shut(2),
+        y -> y.set(2, 0), y -> y.set(0, 4), y -> y.set(1, 9), y -> Due.add(y, 11, "a"), y -> y.flush()};
+
     private static void viewStays() {
         T.sentence("A VIEW that is open has SEGMENTS and who was DROPPED as all was when it was opened, whatever comes");
-        LiveIndex x = new LiveIndex();
-        Due.ask(x, "a*");
-        Due.ask(x, "not a");
-        x.open(3);
-        int[] empty = seen(x, 3);
-        for (int i = 0; i < 3; i++) Due.segment(x, 10 * i, "a", "a b", "c ab");
-        x.drop(0);
-        x.open(0);
-        int[] whole = seen(x, 0);
-        x.drop(1);
-        x.open(1);
-        int[] less = seen(x, 1);
-        T.row("documents", new int[] {empty[0], whole[0], less[0]}, 0, 8, 7);
-        Twins.Call[] comes = {y -> y.drop(10), y -> y.dropBy(0), y -> Due.segment(y, 50, 2), y -> y.begin(),
-            y -> y.drop(51), y -> y.finish(), y -> y.write(), y -> y.commit(), y -> y.open(2), y -> y.shut(2),
-            y -> y.set(2, 0), y -> y.set(0, 4), y -> y.set(1, 9), y -> Due.add(y, 11, "a"), y -> y.flush()};
-        for (int i = 0; i < comes.length; i++) {
-            comes[i].on(x);
-            T.row("an empty view, behind #" + i, seen(x, 3), empty);
-            T.row("a view, behind #" + i, seen(x, 0), whole);
-            T.row("a later view, behind #" + i, seen(x, 1), less);
+        for (int comes = 0; comes <= COMES.length; comes++) {
+            LiveIndex x = new LiveIndex();
+            Due.ask(x, "a*");
+            Due.ask(x, "not a");
+            x.open(3);
+            int[] empty = seen(x, 3);
+            for (int i = 0; i < 3; i++) Due.segment(x, 10 * i, "a", "a b", "c ab");
+            x.drop(0);
+            x.open(0);
+            int[] whole = seen(x, 0);
+            x.drop(1);
+            x.open(1);
+            int[] less = seen(x, 1);
+            T.row("documents", new int[] {empty[0], whole[0], less[0]}, 0, 8, 7);
+            for (int i = 0; i < comes; i++) COMES[i].on(x);
+            T.row("an empty view, when " + comes + " came", seen(x, 3), empty);
+            T.row("a view, when " + comes + " came", seen(x, 0), whole);
+            T.row("a later view, when " + comes + " came", seen(x, 1), less);
+            x.shut(0);
+            T.row("the others, when one is shut", seen(x, 1), less);
+            x.open(0);
+            x.set(2, 9999);
+            T.due("opened anew it is as all is now", x.found(0, 0, 0), x.look(0, 0));
+            T.due("and not as it was", x.found(0, 0, 0) < whole[0] ? 1 : 0, 1);
         }
-        x.shut(0);
-        T.row("the others, when one is shut", seen(x, 1), less);
-        x.open(0);
-        x.set(2, 9999);
-        T.all("opened anew it is as all is now", 2, x.found(0, 0, 0), x.look(0, 0), x.found(1, 0, 0) - 5);
     }
 
     private static void writtenStays() {

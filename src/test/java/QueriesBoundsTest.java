@@ -275,6 +275,19 @@ public final class QueriesBoundsTest {
         Due.ask(z, "a");
         Due.ask(z, "b");
         T.row("in segments", new int[] {z.both(0, 1, 0), z.both(0, 1, 1), z.both(1, 0, 1)}, 1, 1, 1);
+        bothOfEight();
+    }
+
+    private static void bothOfEight() {
+        LiveIndex x = new LiveIndex();
+        for (int key = 0; key < 8; key++) Due.segment(x, key, key < 7 ? "a b" : "a b c");
+        for (String text : new String[] {"a", "b", "c"}) Due.ask(x, text);
+        T.row("of eight segments", new int[] {x.both(0, 1, 0), x.both(0, 1, 1), x.both(0, 2, 0), x.both(2, 0, 1)}, 8, 0, 1, 0);
+        Due.mergeAll(x);
+        T.row("of fewer", new int[] {x.count(2), x.both(0, 1, 0), x.both(0, 1, 1), x.both(0, 2, 0), x.both(0, 2, 1)},
+            4, 8, 0, 1, 7);
+        x.crash();
+        T.row("of none", new int[] {x.both(0, 1, 0), x.both(0, 1, 1), x.both(0, 2, 0), x.both(0, 2, 1)}, 0, 0, 0, 0);
     }
 
     private static void bothBad() {

@@ -207,10 +207,16 @@ public final class QueryTermsBoundsTest {
 
     private static void faultLeavesAll() {
         T.sentence("FAULT ... (by a FAULT, too, THE TAPE is empty then)");
-        for (String text : new String[] {"", "or", "a b", "(a or b", "c* or c* or abcdefg", "\"a b c d e f g\""}) {
+        for (String text : new String[] {"", "or", "a b", "(a or b", "((((a", "not not(not a b", "c* or c* or abcdefg",
+            "\"a b c d e f g\"", "\"c\" or \"c c\" or"}) {
             Twins.alike(T, "it changes nothing but the tape: " + text, Twins.both(Twins.rich(text), x -> x.query()),
                 Twins.rich(""));
         }
+        LiveIndex x = new LiveIndex();
+        for (int i = 0; i < 20; i++) T.due("a phrase left open", Due.ask(x, "\"b b b b b b\"or\"a"), -117);
+        Due.ask(x, "\"a b c d e f\"");
+        Due.segment(x, 0, "b b b b b b", "a b c d e f", "a");
+        T.row("nothing of it is in the next", Due.rowOf(x, 0), 1);
     }
 
     private static void worthOfWord() {
@@ -234,6 +240,15 @@ public final class QueryTermsBoundsTest {
         dueWorth(1, "zzzzzz zzzzzy", "zzzzzz*");
         dueWorth(2, "zzzzzz zzzzz zzzzyz", "zzzzz*");
         dueWorth(1, "abcdef abcde", "abcdef*");
+        String[] next = {"b", "ac", "abd", "abce", "abcdf", "abcdeg"};
+        String[] ahead = {"zzzzzz", "aazzzz", "abbzzz", "abcczz", "abcddz", "abcdee"};
+        for (int letters = 1; letters <= 6; letters++) {
+            String begins = "abcdef".substring(0, letters);
+            dueWorth(1, begins + "z".repeat(6 - letters), begins + "*");
+            dueWorth(1, begins + "a".repeat(6 - letters), begins + "*");
+            dueWorth(0, next[letters - 1], begins + "*");
+            dueWorth(0, ahead[letters - 1], begins + "*");
+        }
     }
 
     private static void worthOfNear() {
@@ -308,12 +323,14 @@ public final class QueryTermsBoundsTest {
 
     private static void worthAtMost() {
         T.sentence("WORTH of the QUERY: 999 at most");
-        // 64 bytes and 12 words allow no more than this, as far as is known: it isn't cut
-        dueWorth(540, TWELVE, "a~a or a~a or a~a or a~a or a~a or a~a or a~a or a~a or a~a");
+        // 64 bytes and 12 words allow no more than this, so that 999 is never reached: it isn't cut
+        String most = "a~a or a~a or a~a or a~a or a~a or a~a or a~a or a~a or a~a or a";
+        T.due("bytes", most.length(), 64);
+        dueWorth(9 * 60 + 12, TWELVE, most);
         LiveIndex x = new LiveIndex();
         Due.fill(x, 4, TWELVE);
-        Due.ask(x, "a~a or a~a or a~a or a~a or a~a or a~a or a~a or a~a or a~a");
-        T.due("of one query in four documents together it may be more", x.look(0, 2), 4 * 540);
+        Due.ask(x, most);
+        T.due("of one query in four documents together it may be more", x.look(0, 2), 4 * 552);
         T.due("silence counts all of it", x.silence(0, 999), 3);
     }
 
@@ -364,6 +381,12 @@ public final class QueryTermsBoundsTest {
         Due.segment(y, 0, "a b");
         T.due("a phrase's words, as often as it names them", y.look(0, 1), 3);
         T.all("though it isn't found", 0, y.look(0, 0), y.look(0, 2));
+        T.due("two phrases, each by itself", y.look(Due.ask(y, "\"a\"or\"b b\"or\"a\""), 1), 4);
+        LiveIndex z = new LiveIndex();
+        Due.segment(z, 0, "abcdee abcdeg abcde abcdf z zz y");
+        for (String text : new String[] {"abcdef", "\"abcdef\"", "abcdef~abcdef", "zzzzzz~yzzzzz"}) {
+            T.due("not of its neighbours: " + text, z.look(Due.ask(z, text), 1), 0);
+        }
     }
 
     private static void costOfBeginnings() {

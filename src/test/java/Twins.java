@@ -148,9 +148,9 @@ final class Twins {
         for (int what = 0; what < 3; what++) to.add(x.set(what, 1));
     }
 
-    /** Not more than some 200 calls, so that an object that holds much is used within its 512. */
+    /** Not more than some 250 calls, so that an object that holds much is used within its 512. */
     private static void segments(LiveIndex x, List<Integer> to) {
-        int until = to.size() + 200;
+        int until = to.size() + 150;
         for (int s = 0; s < x.count(2); s++) {
             for (int what = 0; what < 9; what++) to.add(x.told(s, what));
             for (int i = 0; i < x.told(s, 0) && to.size() < until; i++) {
@@ -189,9 +189,9 @@ final class Twins {
 
     private static void tapeAsQuery(LiveIndex x, List<Integer> to) {
         to.add(x.query());
+        to.add(Due.ask(x, "((((c))))"));
+        to.add(Due.ask(x, "a"));
         if (x.count(2) <= 4) looks(x, to);
-        to.add(x.feed(1, 'a', 0, 0, 0, 0));
-        to.add(x.query());
     }
 
     private static void flushed(LiveIndex x, List<Integer> to) {
